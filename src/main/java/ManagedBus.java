@@ -527,6 +527,10 @@ public final class ManagedBus {
             candidate.addCheck();
         }
 
+        int firstEndpoint() {
+            return number == 0 ? FIRST_NEAR_ENDPOINT : FIRST_FAR_ENDPOINT;
+        }
+
         /** The identity that is left when all ports not resolved send theirs; NONE if all are. */
         int leastUnresolved() {
             int least = NONE;
@@ -598,30 +602,21 @@ public final class ManagedBus {
         }
 
         void step(Bus bus) {
+            if (stage == PREPARE) {
+                prepare(bus);
+                return;
+            }
             if (stage == ASK) {
-                leaveAskIfOver(bus);
+                listen(bus);
             }
             if (!goesOn()) {
                 return;
             }
-            switch (stage) {
-                case PREPARE: prepare(bus); break;
-                case ASK: hearIdentity(bus); break;
-                case GIVE: giveAddress(bus); break;
-                default: setEndpoint(bus); break;
-            }
-        }
-
-        private void leaveAskIfOver(Bus bus) {
-            if (bus.leastUnresolved() != NONE) {
-                if (assigned == MAX_ASSIGNED) {
-                    end(FAILED);
-                }
-            } else if (assigned == 0) {
-                finish();
+            writeRow(bus);
+            if (bus.transmit()) {
+                carryOut(bus);
             } else {
-                setIndex = 0;
-                enter(SET);
+                fail();
             }
         }
 
@@ -632,31 +627,52 @@ public final class ManagedBus {
             enter(ASK);
         }
 
-        private void hearIdentity(Bus bus) {
-            int identity = bus.leastUnresolved();
-            bus.wire.start();
-            bus.wire.add(identity / 256);
-            bus.wire.add(identity % 256);
-            bus.wire.addCheck();
-            if (!bus.transmit()) {
-                fail();
-                return;
+        /** With nobody left who sends, ASK is over before there was a transaction. */
+        private void listen(Bus bus) {
+            heard = bus.leastUnresolved();
+            if (heard == NONE) {
+                leaveAsk();
+            } else if (assigned == MAX_ASSIGNED) {
+                end(FAILED);
             }
-            heard = identity;
-            enter(GIVE);
         }
 
-        private void giveAddress(Bus bus) {
-            int address = FIRST_ADDRESS + assigned;
-            bus.wire.start();
-            bus.wire.add(heard / 256);
-            bus.wire.add(heard % 256);
-            bus.wire.add(address);
-            bus.wire.addCheck();
-            if (!bus.transmit()) {
-                fail();
-                return;
+        private void leaveAsk() {
+            if (assigned == 0) {
+                finish();
+            } else {
+                setIndex = 0;
+                enter(SET);
             }
+        }
+
+        private void writeRow(Bus bus) {
+            Row row = bus.wire;
+            row.start();
+            if (stage == SET) {
+                row.add(FIRST_ADDRESS + setIndex);
+                row.add(bus.firstEndpoint() + setIndex);
+            } else {
+                row.add(heard / 256);
+                row.add(heard % 256);
+            }
+            if (stage == GIVE) {
+                row.add(FIRST_ADDRESS + assigned);
+            }
+            row.addCheck();
+        }
+
+        /** What a good transaction does. */
+        private void carryOut(Bus bus) {
+            switch (stage) {
+                case ASK: enter(GIVE); break;
+                case GIVE: giveNext(bus); break;
+                default: setNext(bus); break;
+            }
+        }
+
+        private void giveNext(Bus bus) {
+            int address = FIRST_ADDRESS + assigned;
             bus.giveAddress(heard, address);
             assigned++;
             if (heard == BRIDGE_IDENTITY) {
@@ -665,18 +681,8 @@ public final class ManagedBus {
             enter(ASK);
         }
 
-        private void setEndpoint(Bus bus) {
-            int address = FIRST_ADDRESS + setIndex;
-            int endpoint = (bus.number == 0 ? FIRST_NEAR_ENDPOINT : FIRST_FAR_ENDPOINT) + setIndex;
-            bus.wire.start();
-            bus.wire.add(address);
-            bus.wire.add(endpoint);
-            bus.wire.addCheck();
-            if (!bus.transmit()) {
-                fail();
-                return;
-            }
-            bus.giveEndpoint(address, endpoint);
+        private void setNext(Bus bus) {
+            bus.giveEndpoint(FIRST_ADDRESS + setIndex, bus.firstEndpoint() + setIndex);
             setIndex++;
             if (setIndex == assigned) {
                 finish();
@@ -882,7 +888,6 @@ public final class ManagedBus {
             return NORMAL;
         }
 
-        @Override
         final void receive(Part message) {
             if (message.isAnswer()) {
                 return;
@@ -959,7 +964,6 @@ public final class ManagedBus {
             port.identity = BRIDGE_IDENTITY;
         }
 
-        @Override
         void passOn(Packet packet, int fromBus) {
             boolean isForBus1 = packet.target >= FIRST_FAR_ENDPOINT;
             if (isForBus1 != (fromBus == 0)) {
@@ -1018,7 +1022,6 @@ public final class ManagedBus {
             send(request.endpoint, NO_ANSWER + request.tag, request.bytes, request.bytes.length);
         }
 
-        @Override
         void receive(Part message) {
             if (message.isAnswer()) {
                 settleRequest(message);

@@ -33,10 +33,12 @@ public final class FaceTest {
             boolean isPrivate = Modifier.isPrivate(field.getModifiers());
             due.yes("field " + field.getName(), isPrivate || field.getName().equals("NONE"));
         }
-        due.yes("NONE", Modifier.toString(face.getField("NONE").getModifiers()).equals("public static final"));
+        String none = Modifier.toString(face.getField("NONE").getModifiers());
+        due.yes("NONE is " + none, none.equals("public static final"));
         Constructor<?>[] made = face.getDeclaredConstructors();
         due.is("constructors", made.length, 1);
-        due.yes("public constructor", Modifier.isPublic(made[0].getModifiers()) && made[0].getParameterCount() == 0);
+        due.yes("public constructor", Modifier.isPublic(made[0].getModifiers()));
+        due.is("parameters of the constructor", made[0].getParameterCount(), 0);
         nestedClasses(due, face);
         due.end();
     }

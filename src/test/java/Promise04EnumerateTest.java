@@ -5,6 +5,7 @@ public final class Promise04EnumerateTest {
         refusals(due);
         stagesOnBus0(due);
         stagesOnBus1(due);
+        everyByteOfAnIdentity(due);
         sameIdentity(due);
         emptyBus(due);
         prepareKeepsAddresses(due);
@@ -94,6 +95,18 @@ public final class Promise04EnumerateTest {
         due.is("node(1, 4), not found on bus 1", bus.node(1, 4), 0);
         due.is("wire(0, NONE)", bus.wire(0, -1), 0);
         Benches.enumerationIs(due, bus, 0, 0, 0, 0);
+    }
+
+    private static void everyByteOfAnIdentity(Due due) {
+        int[] identities = {0, 1, 255, 256, 512, 32768, 65279, 65535};
+        for (int identity : identities) {
+            ManagedBus bus = Benches.plugged(1, identity);
+            bus.enumerate(1);
+            bus.tick(2);
+            Benches.wireIs(due, bus, 1, identity >> 8, identity & 255);
+            bus.tick(1);
+            Benches.wireIs(due, bus, 1, identity >> 8, identity & 255, 16);
+        }
     }
 
     private static void sameIdentity(Due due) {

@@ -24,9 +24,10 @@ public final class Promise07SheetTest {
     private static void zeroAtFirst(Due due) {
         ManagedBus bus = Benches.ready(0, 5);
         bus.ask(9, 32);
+        int[] flags = {136, 24, 40, 120};
         for (int packet = 0; packet < 4; packet++) {
             bus.tick(1);
-            Benches.wireIs(due, bus, 0, 16, 9, 8, new int[] {136, 24, 40, 120}[packet], 0, 0, 0, 0, 0, 0, 0, 0);
+            Benches.wireIs(due, bus, 0, 16, 9, 8, flags[packet], 0, 0, 0, 0, 0, 0, 0, 0);
         }
     }
 

@@ -10,7 +10,8 @@ public final class Promise10EnumerationTest {
 
     private static void wrongInputs(Due due) {
         ManagedBus bus = Benches.ready(0, 5);
-        int[][] wrong = {{-1, 0}, {2, 0}, {0, -1}, {0, 3}, {1, 3}, {Integer.MAX_VALUE, 0}, {0, Integer.MIN_VALUE}};
+        int[][] wrong = {{-1, 0}, {2, 0}, {0, -1}, {0, 3}, {1, 3},
+            {Integer.MAX_VALUE, 0}, {0, Integer.MIN_VALUE}};
         for (int[] w : wrong) {
             due.is("enumeration(" + w[0] + ", " + w[1] + ")", bus.enumeration(w[0], w[1]), -1);
         }

@@ -79,8 +79,8 @@ public final class Promise13BlockTest {
         shifted[1] = 1;
         shifted[2] = 9;
         int[][] wrong = {{4}, {4, 0}, {4, 0, 0}, {4, 0, 25}, {4, 1, 24}, {4, 23, 2}, {4, 24, 1}, {4, 24, 0},
-            {4, 255, 1}, {4, 0, 255}, {4, 0, 1, 1}, {5}, {5, 0}, {5, 24}, {5, 24, 9}, {5, 23, 9, 9}, {5, 255, 9},
-            tooLong, longest, shifted};
+            {4, 255, 1}, {4, 0, 255}, {4, 0, 1, 1}, {5}, {5, 0}, {5, 24}, {5, 24, 9}, {5, 23, 9, 9},
+            {5, 255, 9}, tooLong, longest, shifted};
         for (int[] message : wrong) {
             ManagedBus bus = Benches.ready(0, 5);
             Benches.answered(due, bus, Benches.ask(bus, 9, message), 255);

@@ -23,7 +23,8 @@ public final class Promise17WireTest {
 
     /** Rows whose checks were worked out apart from this program. */
     private static void checksThatAreKnown(Due due) {
-        int[][] identitiesAndChecks = {{500, 215}, {1000, 169}, {0, 0}, {1, 7}, {255, 243}, {256, 21}, {65535, 36}};
+        int[][] identitiesAndChecks = {{500, 215}, {1000, 169}, {0, 0}, {1, 7}, {255, 243},
+            {256, 21}, {65535, 36}};
         for (int[] pair : identitiesAndChecks) {
             ManagedBus bus = Benches.plugged(1, pair[0]);
             bus.enumerate(1);
@@ -75,10 +76,11 @@ public final class Promise17WireTest {
         bus.noise(0, 5, 255);
         bus.tick(1);
         due.is("wire(0, 4)", bus.wire(0, 4), 1);
-        due.is("wire(0, 5)", bus.wire(0, 5), Benches.check(16, 9, 8, 200, 1) ^ 255);
+        int check = Benches.check(16, 9, 8, 200, 1) ^ 255;
+        due.is("wire(0, 5)", bus.wire(0, 5), check);
         due.is("wire(0, NONE)", bus.wire(0, -1), 6);
         bus.noise(0, 6, 255);
-        due.is("wire(0, 5), noise waits for the next one", bus.wire(0, 5), Benches.check(16, 9, 8, 200, 1) ^ 255);
+        due.is("wire(0, 5), noise waits for the next one", bus.wire(0, 5), check);
         bus.tick(1);
         Benches.wireIs(due, bus, 0, 16, 9, 8, 200, 1);
     }

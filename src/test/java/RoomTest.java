@@ -38,7 +38,8 @@ public final class RoomTest {
     }
 
     private static void strangeArguments(Due due) {
-        int[] some = {Integer.MIN_VALUE, -40001, -2, -1, 0, 1, 2, 6, 7, 8, 13, 24, 32, 64, 65536, Integer.MAX_VALUE};
+        int[] some = {Integer.MIN_VALUE, -40001, -2, -1, 0, 1, 2, 6, 7, 8, 13, 24, 32, 64, 65536,
+            Integer.MAX_VALUE};
         ManagedBus bus = Benches.ready(1, 5, 6);
         Benches.setReceiver(bus, 32, 8);
         for (int a : some) {
