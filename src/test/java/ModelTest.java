@@ -1,21 +1,22 @@
+import java.util.ArrayList;
+import java.util.List;
+
 /**
- * All promises: long runs of calls on a ManagedBus and on a PlainBus side by side, the whole
- * visible state compared after every call. The calls are drawn by a counter of our own, so a run
- * is the same each time.
+ * All promises: runs of calls on the class and on a PlainBus side by side. Between the calls a
+ * few questions are asked, and at a run's end all that the face shows is compared. The calls are
+ * drawn by a counter of our own, so a run is the same each time.
  */
 public final class ModelTest {
-    private static final int RUNS = 300;
-    private static final int CALLS = 500;
+    private static final int RUNS = 3000;
+    private static final int MOST_CHANGES = 170;
+    /** With these behind each change a run has at most 512 calls. */
+    private static final int QUESTIONS_EACH = 2;
 
-    private final Due due;
+    private final List<Call> changes = new ArrayList<>();
     private final int run;
-    private final ManagedBus bus = new ManagedBus();
-    private final PlainBus plain = new PlainBus();
     private long seed;
-    private boolean same = true;
 
-    private ModelTest(Due due, int run) {
-        this.due = due;
+    private ModelTest(int run) {
         this.run = run;
         seed = run * 7919L + 17;
     }
@@ -23,11 +24,9 @@ public final class ModelTest {
     public static void main(String[] args) {
         Due due = new Due();
         for (int run = 0; run < RUNS; run++) {
-            ModelTest test = new ModelTest(due, run);
-            test.prepare();
-            for (int i = 0; i < CALLS && test.same; i++) {
-                test.call(i);
-            }
+            ModelTest test = new ModelTest(run);
+            test.drawChanges();
+            test.playBoth(due);
         }
         due.end();
     }
@@ -38,16 +37,23 @@ public final class ModelTest {
     }
 
     /** Most runs begin with buses that are ready; the others find their way by themselves. */
-    private void prepare() {
-        if (run % 4 == 0) {
-            return;
+    private void drawChanges() {
+        if (run % 4 != 0) {
+            for (int d = 2; d <= 6; d++) {
+                add("plug", d, draw(2), identity());
+            }
+            add("enumerate", 0);
+            add("enumerate", 1);
+            add("tick", 20);
         }
-        for (int d = 2; d <= 6; d++) {
-            both("plug", d, draw(2), identity());
+        int last = 20 + draw(MOST_CHANGES - 30);
+        while (changes.size() < last) {
+            drawChange();
         }
-        both("enumerate", 0, 0, 0);
-        both("enumerate", 1, 0, 0);
-        both("tick", 20, 0, 0);
+    }
+
+    private void add(String name, int... args) {
+        changes.add(new Call(name, args));
     }
 
     private int identity() {
@@ -65,125 +71,78 @@ public final class ModelTest {
         return draw(3) == 0 ? draw(64) - 32 : some[draw(some.length)];
     }
 
-    private void call(int i) {
+    private void drawChange() {
         switch (draw(run % 3 == 0 ? 22 : 18)) {
-            case 0: both("plug", draw(8), draw(3), identity()); break;
-            case 1: both("unplug", draw(60), 0, 0); break;
-            case 2: both("enumerate", draw(12), 0, 0); break;
-            case 3: both("noise", draw(3), draw(14), draw(10) == 0 ? draw(300) : 1 << draw(8)); break;
-            case 4: case 5: case 6: case 7: both("tick", 1 + draw(4), 0, 0); break;
-            case 8: both("tick", draw(110), 0, 0); break;
-            case 9: case 10: both("sensor", draw(8), value(), 0); break;
-            case 11: both("sheet", draw(33), draw(257), 0); break;
-            case 12: both("tick", 1, 0, 0); break;
-            case 13: case 14: case 15: case 16: command(); break;
-            case 17: both("sensor", 1 + draw(6), draw(2) == 0 ? 2000 : -2000, 0); break;
-            case 18: both("unplug", 2 + draw(5), 0, 0); break;
-            case 19: both("plug", 2 + draw(5), draw(2), identity()); break;
-            case 20: both("enumerate", draw(2), 0, 0); break;
-            default: both("noise", draw(2), draw(6), 1 + draw(255)); break;
+            case 0: add("plug", draw(8), draw(3), identity()); break;
+            case 1: add("unplug", draw(60)); break;
+            case 2: add("enumerate", draw(12)); break;
+            case 3: add("noise", draw(3), draw(14), draw(10) == 0 ? draw(300) : 1 << draw(8)); break;
+            case 4: case 5: case 6: case 7: add("tick", 1 + draw(4)); break;
+            case 8: add("tick", draw(4) == 0 ? draw(110) : draw(40)); break;
+            case 9: case 10: add("sensor", draw(8), value()); break;
+            case 11: add("sheet", draw(33), draw(257)); break;
+            case 12: add("tick", 1); break;
+            case 13: case 14: case 15: case 16: addCommand(); break;
+            case 17: add("sensor", 1 + draw(6), draw(2) == 0 ? 2000 : -2000); break;
+            case 18: add("unplug", 2 + draw(5)); break;
+            case 19: add("plug", 2 + draw(5), draw(2), identity()); break;
+            case 20: add("enumerate", draw(2)); break;
+            default: add("noise", draw(2), draw(6), 1 + draw(255)); break;
         }
     }
 
     /** A command to a device, mostly as the document says it. */
-    private void command() {
+    private void addCommand() {
         int first = draw(7);
         int[] lengths = {1, 1, 6, 2, 3, 3 + draw(24), 4};
-        both("sheet", 0, first == 6 ? 64 : first, 0);
+        add("sheet", 0, first == 6 ? 64 : first);
         if (first == 2) {
-            bounds();
+            addBounds();
         } else {
             int[] receivers = {8, 8, 8, 9, 10, 11, 0, 32, 33, 255};
-            both("sheet", 1, first == 3 ? receivers[draw(10)] : draw(27), 0);
-            both("sheet", 2, draw(27), 0);
-            both("sheet", 3 + draw(20), draw(256), 0);
+            add("sheet", 1, first == 3 ? receivers[draw(10)] : draw(27));
+            add("sheet", 2, draw(27));
+            add("sheet", 3 + draw(20), draw(256));
         }
-        both("ask", endpoint(), draw(15) == 0 ? draw(34) : lengths[first], 0);
+        add("ask", endpoint(), draw(15) == 0 ? draw(34) : lengths[first]);
     }
 
-    private void bounds() {
+    private void addBounds() {
         int low = draw(60) - 40;
         int high = draw(60) - 20;
-        both("sheet", 1, low >> 8 & 255, 0);
-        both("sheet", 2, low & 255, 0);
-        both("sheet", 3, high >> 8 & 255, 0);
-        both("sheet", 4, high & 255, 0);
-        both("sheet", 5, draw(20), 0);
+        add("sheet", 1, low >> 8 & 255);
+        add("sheet", 2, low & 255);
+        add("sheet", 3, high >> 8 & 255);
+        add("sheet", 4, high & 255);
+        add("sheet", 5, draw(20));
     }
 
-    private void both(String name, int a, int b, int c) {
-        if (!same) {
-            return;
+    private void playBoth(Due due) {
+        CountedBus bus = new CountedBus();
+        PlainBus plain = new PlainBus();
+        for (int i = 0; i < changes.size(); i++) {
+            Call change = changes.get(i);
+            String before = "run " + run + ", call " + i + ": " + change;
+            if (!isSame(due, before, change.on(bus), change.on(plain))) {
+                return;
+            }
+            for (int q = 0; q < QUESTIONS_EACH; q++) {
+                Call question = Shown.QUESTIONS.get(draw(Shown.QUESTIONS.size()));
+                if (!isSame(due, before + ", then " + question, question.on(bus), question.on(plain))) {
+                    return;
+                }
+            }
         }
-        String call = "run " + run + ": " + name + "(" + a + ", " + b + ", " + c + ")";
-        int got = onBus(name, a, b, c);
-        int want = onPlain(name, a, b, c);
+        int[] want = new int[Shown.QUESTIONS.size() + 1];
+        for (int i = 0; i < Shown.QUESTIONS.size(); i++) {
+            want[i] = Shown.QUESTIONS.get(i).on(plain);
+        }
+        want[want.length - 1] = plain.tick(1);
+        Shown.same(due, "run " + run + ", " + changes.size() + " calls", Shown.after(changes), want);
+    }
+
+    private static boolean isSame(Due due, String call, int got, int want) {
         due.is(call, got, want);
-        same = got == want;
-        compareState(call);
-    }
-
-    private static int number(boolean b) {
-        return b ? 1 : 0;
-    }
-
-    private int onBus(String name, int a, int b, int c) {
-        switch (name) {
-            case "plug": return number(bus.plug(a, b, c));
-            case "unplug": return number(bus.unplug(a));
-            case "enumerate": return number(bus.enumerate(a));
-            case "noise": return number(bus.noise(a, b, c));
-            case "tick": return bus.tick(a);
-            case "sheet": return number(bus.sheet(a, b));
-            case "ask": return bus.ask(a, b);
-            default: return number(bus.sensor(a, b));
-        }
-    }
-
-    private int onPlain(String name, int a, int b, int c) {
-        switch (name) {
-            case "plug": return number(plain.plug(a, b, c));
-            case "unplug": return number(plain.unplug(a));
-            case "enumerate": return number(plain.enumerate(a));
-            case "noise": return number(plain.noise(a, b, c));
-            case "tick": return plain.tick(a);
-            case "sheet": return number(plain.sheet(a, b));
-            case "ask": return plain.ask(a, b);
-            default: return number(plain.sensor(a, b));
-        }
-    }
-
-    private void compare(String call, String read, int i, int k, int got, int want) {
-        if (same && got != want) {
-            same = false;
-            due.is(call + ", then " + read + "(" + i + ", " + k + ")", got, want);
-        }
-    }
-
-    private void compareState(String call) {
-        for (int b = -1; b <= 2; b++) {
-            for (int k = -2; k <= 14; k++) {
-                compare(call, "wire", b, k, bus.wire(b, k), plain.wire(b, k));
-                compare(call, "enumeration", b, k, bus.enumeration(b, k), plain.enumeration(b, k));
-            }
-        }
-        for (int d = -1; d <= 7; d++) {
-            for (int k = -1; k <= 24; k++) {
-                compare(call, "node", d, k, bus.node(d, k), plain.node(d, k));
-                compare(call, "sense", d, k, bus.sense(d, k), plain.sense(d, k));
-                compare(call, "block", d, k, bus.block(d, k), plain.block(d, k));
-            }
-        }
-        for (int r = -1; r <= 40; r++) {
-            for (int k = -1; k <= 6; k++) {
-                compare(call, "request", r, k, bus.request(r, k), plain.request(r, k));
-            }
-            for (int k = -1; k <= 32; k++) {
-                compare(call, "answer", r, k, bus.answer(r, k), plain.answer(r, k));
-            }
-            for (int k = -1; k <= 3; k++) {
-                compare(call, "event", r, k, bus.event(r, k), plain.event(r, k));
-            }
-        }
+        return got == want;
     }
 }

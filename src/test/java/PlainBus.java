@@ -7,7 +7,7 @@ import java.util.Map;
  * The document once more, in its plainest form and built in another way than ManagedBus: packets
  * are rows, parts are lists, nothing is used again. ModelTest lets both run side by side.
  */
-final class PlainBus {
+final class PlainBus implements Face {
     private static final class Port {
         int node;
         int bus;
@@ -98,7 +98,8 @@ final class PlainBus {
         return low <= x && x <= high;
     }
 
-    boolean plug(int d, int bus, int identity) {
+    @Override
+    public boolean plug(int d, int bus, int identity) {
         if (!within(d, 2, 6) || port(d, -1) != null || !within(bus, 0, 1) || !within(identity, 0, 65535)) {
             return false;
         }
@@ -109,7 +110,8 @@ final class PlainBus {
         return true;
     }
 
-    boolean unplug(int d) {
+    @Override
+    public boolean unplug(int d) {
         if (!within(d, 2, 6) || port(d, -1) == null) {
             return false;
         }
@@ -118,7 +120,8 @@ final class PlainBus {
         return true;
     }
 
-    boolean enumerate(int bus) {
+    @Override
+    public boolean enumerate(int bus) {
         if (!within(bus, 0, 1) || state[bus] == 1) {
             return false;
         }
@@ -128,7 +131,8 @@ final class PlainBus {
         return true;
     }
 
-    boolean noise(int bus, int k, int mask) {
+    @Override
+    public boolean noise(int bus, int k, int mask) {
         if (!within(bus, 0, 1) || !within(k, 0, 12) || !within(mask, 1, 255)) {
             return false;
         }
@@ -136,7 +140,8 @@ final class PlainBus {
         return true;
     }
 
-    int tick(int n) {
+    @Override
+    public int tick(int n) {
         if (!within(n, 1, 100)) {
             return -1;
         }
@@ -510,7 +515,8 @@ final class PlainBus {
         }
     }
 
-    boolean sheet(int k, int v) {
+    @Override
+    public boolean sheet(int k, int v) {
         if (!within(k, 0, 31) || !within(v, 0, 255)) {
             return false;
         }
@@ -518,7 +524,8 @@ final class PlainBus {
         return true;
     }
 
-    int ask(int endpoint, int n) {
+    @Override
+    public int ask(int endpoint, int n) {
         if (!within(n, 1, 32) || !within(endpoint, 9, 63) || requests.size() == 40) {
             return -1;
         }
@@ -531,7 +538,8 @@ final class PlainBus {
         return number;
     }
 
-    boolean sensor(int d, int v) {
+    @Override
+    public boolean sensor(int d, int v) {
         if (!within(d, 1, 6) || port(d, -1) == null || !within(v, -32768, 32767)) {
             return false;
         }
@@ -540,14 +548,16 @@ final class PlainBus {
         return true;
     }
 
-    int enumeration(int bus, int what) {
+    @Override
+    public int enumeration(int bus, int what) {
         if (!within(bus, 0, 1) || !within(what, 0, 2)) {
             return -1;
         }
         return new int[] {state[bus], assigned.get(bus).size(), tries[bus]}[what];
     }
 
-    int node(int d, int what) {
+    @Override
+    public int node(int d, int what) {
         Port port = within(d, 0, 6) ? port(d, -1) : null;
         if (port == null || !within(what, 0, 7)) {
             return -1;
@@ -557,7 +567,8 @@ final class PlainBus {
             port.output.size(), far, port.tries}[what];
     }
 
-    int sense(int d, int what) {
+    @Override
+    public int sense(int d, int what) {
         if (!within(d, 1, 6) || port(d, -1) == null || !within(what, 0, 6)) {
             return 0;
         }
@@ -565,14 +576,16 @@ final class PlainBus {
         return new int[] {s.value, s.state, s.low, s.high, s.slack, s.receiver, s.events}[what];
     }
 
-    int block(int d, int k) {
+    @Override
+    public int block(int d, int k) {
         if (!within(d, 1, 6) || port(d, -1) == null || !within(k, 0, 23)) {
             return -1;
         }
         return sensors[d].block[k];
     }
 
-    int request(int r, int what) {
+    @Override
+    public int request(int r, int what) {
         if (!within(r, 0, requests.size() - 1) || !within(what, 0, 4)) {
             return -1;
         }
@@ -580,18 +593,21 @@ final class PlainBus {
         return new int[] {q.state, q.endpoint, q.timer, q.count, q.answer.size()}[what];
     }
 
-    int answer(int r, int k) {
+    @Override
+    public int answer(int r, int k) {
         if (!within(r, 0, requests.size() - 1) || !within(k, 0, requests.get(r).answer.size() - 1)) {
             return -1;
         }
         return requests.get(r).answer.get(k);
     }
 
-    int event(int k, int what) {
+    @Override
+    public int event(int k, int what) {
         return within(k, 0, log.size() - 1) && within(what, 0, 2) ? log.get(k)[what] : -40000;
     }
 
-    int wire(int bus, int k) {
+    @Override
+    public int wire(int bus, int k) {
         if (!within(bus, 0, 1)) {
             return -1;
         }

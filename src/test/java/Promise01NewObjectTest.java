@@ -2,16 +2,16 @@
 public final class Promise01NewObjectTest {
     public static void main(String[] args) {
         Due due = new Due();
-        nodesAtFirst(due, new ManagedBus());
-        busesAtFirst(due, new ManagedBus());
-        managerAtFirst(due, new ManagedBus());
-        sensorOfTheBridgeAtFirst(due, new ManagedBus());
+        nodesAtFirst(due, new CountedBus());
+        busesAtFirst(due, new CountedBus());
+        managerAtFirst(due, new CountedBus());
+        sensorOfTheBridgeAtFirst(due, new CountedBus());
         objectsShareNothing(due);
         due.is("NONE", ManagedBus.NONE, -1);
         due.end();
     }
 
-    private static void nodesAtFirst(Due due, ManagedBus bus) {
+    private static void nodesAtFirst(Due due, CountedBus bus) {
         int[] manager = {0, 0, 8, 1, 8, 0, 0, 0};
         int[] bridge = {0, 1000, 0, 0, 0, 0, 0, 0};
         for (int what = 0; what < 8; what++) {
@@ -23,7 +23,7 @@ public final class Promise01NewObjectTest {
         }
     }
 
-    private static void busesAtFirst(Due due, ManagedBus bus) {
+    private static void busesAtFirst(Due due, CountedBus bus) {
         for (int b = 0; b < 2; b++) {
             for (int what = 0; what < 3; what++) {
                 due.is("enumeration(" + b + ", " + what + ")", bus.enumeration(b, what), 0);
@@ -40,14 +40,14 @@ public final class Promise01NewObjectTest {
         due.is("wire(0, 0), no noise at first", bus.wire(0, 0), 3);
     }
 
-    private static void managerAtFirst(Due due, ManagedBus bus) {
+    private static void managerAtFirst(Due due, CountedBus bus) {
         due.is("request(0, 0)", bus.request(0, 0), -1);
         due.is("answer(0, 0)", bus.answer(0, 0), -1);
         due.is("event(0, 0)", bus.event(0, 0), -40000);
         due.is("tick(1), the clock is 0 at first", bus.tick(1), 1);
     }
 
-    private static void sensorOfTheBridgeAtFirst(Due due, ManagedBus bus) {
+    private static void sensorOfTheBridgeAtFirst(Due due, CountedBus bus) {
         int[] sensor = {0, 0, -1000, 1000, 0, 0, 0};
         for (int what = 0; what < 7; what++) {
             due.is("sense(1, " + what + ")", bus.sense(1, what), sensor[what]);
@@ -60,8 +60,8 @@ public final class Promise01NewObjectTest {
     }
 
     private static void objectsShareNothing(Due due) {
-        ManagedBus one = new ManagedBus();
-        ManagedBus other = new ManagedBus();
+        CountedBus one = new CountedBus();
+        CountedBus other = new CountedBus();
         one.plug(2, 0, 5);
         one.enumerate(0);
         one.tick(10);

@@ -13,7 +13,7 @@ public final class Promise02PlugTest {
     private static void allDevicesOnBothBuses(Due due) {
         int[] identities = {0, 65535, 1000, 256, 255};
         for (int b = 0; b < 2; b++) {
-            ManagedBus bus = new ManagedBus();
+            CountedBus bus = new CountedBus();
             for (int d = 2; d <= 6; d++) {
                 due.yes("plug(" + d + ", " + b + ")", bus.plug(d, b, identities[d - 2]));
                 int[] fresh = {b, identities[d - 2], 0, 0, 0, 0, 0, 0};
@@ -25,7 +25,7 @@ public final class Promise02PlugTest {
         }
     }
 
-    private static void sensorIsFresh(Due due, ManagedBus bus, int d) {
+    private static void sensorIsFresh(Due due, CountedBus bus, int d) {
         int[] sensor = {0, 0, -1000, 1000, 0, 0, 0};
         for (int what = 0; what < 7; what++) {
             due.is("sense(" + d + ", " + what + ")", bus.sense(d, what), sensor[what]);
@@ -36,7 +36,7 @@ public final class Promise02PlugTest {
     }
 
     private static void wrongInputsChangeNothing(Due due) {
-        ManagedBus bus = new ManagedBus();
+        CountedBus bus = new CountedBus();
         int[] noDevices = {-1, 0, 1, 7, Integer.MAX_VALUE, Integer.MIN_VALUE};
         for (int d : noDevices) {
             due.no("plug(" + d + ", 0, 5)", bus.plug(d, 0, 5));
@@ -55,7 +55,7 @@ public final class Promise02PlugTest {
     }
 
     private static void pluggedAnewAllIsAsAtFirst(Due due) {
-        ManagedBus bus = Benches.ready(0, 5);
+        CountedBus bus = Benches.ready(0, 5);
         Benches.setReceiver(bus, 9, 8);
         Benches.setBounds(bus, 9, -7, 7, 3);
         Benches.ask(bus, 9, 5, 0, 1, 2, 3);
@@ -80,7 +80,7 @@ public final class Promise02PlugTest {
     }
 
     private static void pluggedAnewThereIsNoPart(Due due) {
-        ManagedBus bus = Benches.ready(0, 5);
+        CountedBus bus = Benches.ready(0, 5);
         Benches.ask(bus, 9, 5, 0, 1, 2, 3, 4, 5, 6, 7, 8);
         bus.tick(1);
         due.is("node(0, 5), the second packet waits", bus.node(0, 5), 1);
@@ -96,7 +96,7 @@ public final class Promise02PlugTest {
     }
 
     private static void pluggedAnewOnTheOtherBus(Due due) {
-        ManagedBus bus = Benches.ready(0, 5);
+        CountedBus bus = Benches.ready(0, 5);
         bus.unplug(2);
         due.yes("plug(2, 1, 9)", bus.plug(2, 1, 9));
         due.is("node(2, 0)", bus.node(2, 0), 1);

@@ -12,7 +12,7 @@ public final class Promise03UnplugTest {
 
     private static void unpluggedDeviceHasNothing(Due due) {
         for (int d = 2; d <= 6; d++) {
-            ManagedBus bus = new ManagedBus();
+            CountedBus bus = new CountedBus();
             bus.plug(d, d % 2, 5);
             due.yes("unplug(" + d + ")", bus.unplug(d));
             for (int what = 0; what < 8; what++) {
@@ -27,7 +27,7 @@ public final class Promise03UnplugTest {
     }
 
     private static void wrongInputsChangeNothing(Due due) {
-        ManagedBus bus = new ManagedBus();
+        CountedBus bus = new CountedBus();
         int[] noDevices = {-1, 0, 1, 7, Integer.MAX_VALUE, Integer.MIN_VALUE};
         for (int d : noDevices) {
             due.no("unplug(" + d + ")", bus.unplug(d));
@@ -42,7 +42,7 @@ public final class Promise03UnplugTest {
     }
 
     private static void itsOutputIsLost(Due due) {
-        ManagedBus bus = Benches.ready(0, 5);
+        CountedBus bus = Benches.ready(0, 5);
         int r = Benches.ask(bus, 9, 1);
         bus.tick(1);
         due.is("node(2, 5), its answer waits", bus.node(2, 5), 1);
@@ -56,7 +56,7 @@ public final class Promise03UnplugTest {
     }
 
     private static void nobodyTakesItsPackets(Due due) {
-        ManagedBus bus = Benches.ready(0, 5, 6);
+        CountedBus bus = Benches.ready(0, 5, 6);
         bus.unplug(2);
         Benches.ask(bus, 9, 1);
         bus.tick(1);
@@ -68,7 +68,7 @@ public final class Promise03UnplugTest {
     }
 
     private static void itIsNotEnumerated(Due due) {
-        ManagedBus bus = Benches.plugged(1, 5, 6);
+        CountedBus bus = Benches.plugged(1, 5, 6);
         bus.unplug(2);
         bus.enumerate(1);
         bus.tick(4);

@@ -21,7 +21,7 @@ public final class Promise04EnumerateTest {
     }
 
     private static void refusals(Due due) {
-        ManagedBus bus = new ManagedBus();
+        CountedBus bus = new CountedBus();
         due.no("enumerate(-1)", bus.enumerate(-1));
         due.no("enumerate(2)", bus.enumerate(2));
         due.yes("enumerate(0)", bus.enumerate(0));
@@ -35,7 +35,7 @@ public final class Promise04EnumerateTest {
     }
 
     private static void stagesOnBus0(Due due) {
-        ManagedBus bus = Benches.plugged(0, 2000, 500);
+        CountedBus bus = Benches.plugged(0, 2000, 500);
         bus.enumerate(0);
         Benches.enumerationIs(due, bus, 0, 1, 0, 0);
         bus.tick(1);
@@ -76,7 +76,7 @@ public final class Promise04EnumerateTest {
     }
 
     private static void stagesOnBus1(Due due) {
-        ManagedBus bus = Benches.plugged(1, 65535, 0);
+        CountedBus bus = Benches.plugged(1, 65535, 0);
         bus.enumerate(1);
         bus.tick(2);
         Benches.wireIs(due, bus, 1, 0, 0);
@@ -100,7 +100,7 @@ public final class Promise04EnumerateTest {
     private static void everyByteOfAnIdentity(Due due) {
         int[] identities = {0, 1, 255, 256, 512, 32768, 65279, 65535};
         for (int identity : identities) {
-            ManagedBus bus = Benches.plugged(1, identity);
+            CountedBus bus = Benches.plugged(1, identity);
             bus.enumerate(1);
             bus.tick(2);
             Benches.wireIs(due, bus, 1, identity >> 8, identity & 255);
@@ -110,7 +110,7 @@ public final class Promise04EnumerateTest {
     }
 
     private static void sameIdentity(Due due) {
-        ManagedBus bus = Benches.plugged(1, 7, 7, 9);
+        CountedBus bus = Benches.plugged(1, 7, 7, 9);
         bus.enumerate(1);
         bus.tick(7);
         Benches.enumerationIs(due, bus, 1, 2, 2, 0);
@@ -122,7 +122,7 @@ public final class Promise04EnumerateTest {
     }
 
     private static void emptyBus(Due due) {
-        ManagedBus bus = new ManagedBus();
+        CountedBus bus = new CountedBus();
         bus.enumerate(1);
         bus.tick(1);
         Benches.enumerationIs(due, bus, 1, 1, 0, 0);
@@ -137,7 +137,7 @@ public final class Promise04EnumerateTest {
     }
 
     private static void prepareKeepsAddresses(Due due) {
-        ManagedBus bus = Benches.ready(0, 5);
+        CountedBus bus = Benches.ready(0, 5);
         bus.plug(3, 0, 4);
         bus.enumerate(0);
         Benches.enumerationIs(due, bus, 0, 1, 2, 0);
@@ -156,7 +156,7 @@ public final class Promise04EnumerateTest {
     }
 
     private static void badTransactionsAreRepeated(Due due) {
-        ManagedBus bus = Benches.plugged(1, 7);
+        CountedBus bus = Benches.plugged(1, 7);
         bus.enumerate(1);
         bus.noise(1, 2, 255);
         bus.tick(2);
@@ -187,7 +187,7 @@ public final class Promise04EnumerateTest {
         int[] ticksBefore = {1, 2, 3};
         int[] assigned = {0, 0, 1};
         for (int stage = 0; stage < 3; stage++) {
-            ManagedBus bus = Benches.plugged(1, 7);
+            CountedBus bus = Benches.plugged(1, 7);
             bus.enumerate(1);
             bus.tick(ticksBefore[stage]);
             for (int i = 1; i <= 2; i++) {
@@ -207,7 +207,7 @@ public final class Promise04EnumerateTest {
     }
 
     private static void triesBeginAnewWithEachStage(Due due) {
-        ManagedBus bus = Benches.plugged(1, 7, 8);
+        CountedBus bus = Benches.plugged(1, 7, 8);
         bus.enumerate(1);
         bus.tick(1);
         for (int transaction = 0; transaction < 6; transaction++) {
@@ -223,8 +223,8 @@ public final class Promise04EnumerateTest {
     }
 
     /** Each time that one was assigned, the device is plugged anew and asks once more. */
-    private static ManagedBus sixteenAssigned() {
-        ManagedBus bus = Benches.plugged(1, 7);
+    private static CountedBus sixteenAssigned() {
+        CountedBus bus = Benches.plugged(1, 7);
         bus.enumerate(1);
         bus.tick(1);
         for (int i = 0; i < 16; i++) {
@@ -236,7 +236,7 @@ public final class Promise04EnumerateTest {
     }
 
     private static void sixteenAreTheMost(Due due) {
-        ManagedBus bus = sixteenAssigned();
+        CountedBus bus = sixteenAssigned();
         Benches.enumerationIs(due, bus, 1, 1, 16, 0);
         due.is("node(2, 2)", bus.node(2, 2), 31);
         bus.unplug(2);
@@ -248,7 +248,7 @@ public final class Promise04EnumerateTest {
     }
 
     private static void sixteenAreEnough(Due due) {
-        ManagedBus bus = sixteenAssigned();
+        CountedBus bus = sixteenAssigned();
         bus.tick(15);
         Benches.enumerationIs(due, bus, 1, 1, 16, 0);
         due.is("node(2, 4) before SET 15", bus.node(2, 4), 0);
@@ -259,7 +259,7 @@ public final class Promise04EnumerateTest {
     }
 
     private static void pluggedWhileItGoesOn(Due due) {
-        ManagedBus bus = Benches.plugged(1, 7);
+        CountedBus bus = Benches.plugged(1, 7);
         bus.enumerate(1);
         bus.tick(2);
         bus.plug(3, 1, 7);
@@ -278,7 +278,7 @@ public final class Promise04EnumerateTest {
     }
 
     private static void unpluggedWhileItGoesOn(Due due) {
-        ManagedBus bus = Benches.plugged(1, 7);
+        CountedBus bus = Benches.plugged(1, 7);
         bus.enumerate(1);
         bus.tick(2);
         bus.unplug(2);
@@ -292,7 +292,7 @@ public final class Promise04EnumerateTest {
     }
 
     private static void asksOnceMoreWithNobodyThere(Due due) {
-        ManagedBus bus = Benches.plugged(1, 7, 8);
+        CountedBus bus = Benches.plugged(1, 7, 8);
         bus.enumerate(1);
         bus.tick(3);
         bus.noise(1, 0, 1);
@@ -309,7 +309,7 @@ public final class Promise04EnumerateTest {
     }
 
     private static void packetsWaitOnThatBusAlone(Due due) {
-        ManagedBus bus = Benches.ready(0, 5);
+        CountedBus bus = Benches.ready(0, 5);
         int r = Benches.ask(bus, 9, 1);
         bus.enumerate(1);
         bus.tick(2);
@@ -326,7 +326,7 @@ public final class Promise04EnumerateTest {
 
     /** An enumeration that ends in a tick has had that tick, even without a transaction. */
     private static void overInATickWithoutATransaction(Due due) {
-        ManagedBus bus = Benches.ready(1, 5);
+        CountedBus bus = Benches.ready(1, 5);
         Benches.ask(bus, 32, 1);
         bus.unplug(2);
         bus.enumerate(1);

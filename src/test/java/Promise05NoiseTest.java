@@ -13,7 +13,7 @@ public final class Promise05NoiseTest {
     }
 
     private static void wrongInputsChangeNothing(Due due) {
-        ManagedBus bus = Benches.plugged(1, 7);
+        CountedBus bus = Benches.plugged(1, 7);
         due.yes("noise(1, 0, 255)", bus.noise(1, 0, 255));
         int[][] wrong = {{-1, 1, 1}, {2, 1, 1}, {1, -1, 1}, {1, 13, 1}, {1, 1, 0}, {1, 1, 256}, {1, 1, -1}};
         for (int[] w : wrong) {
@@ -26,7 +26,7 @@ public final class Promise05NoiseTest {
     }
 
     private static void oneTransactionAlone(Due due) {
-        ManagedBus bus = Benches.plugged(1, 7);
+        CountedBus bus = Benches.plugged(1, 7);
         bus.enumerate(1);
         due.yes("noise(1, 1, 1)", bus.noise(1, 1, 1));
         bus.tick(2);
@@ -37,7 +37,7 @@ public final class Promise05NoiseTest {
     }
 
     private static void inPlaceOfTheOneBefore(Due due) {
-        ManagedBus bus = Benches.plugged(1, 7);
+        CountedBus bus = Benches.plugged(1, 7);
         bus.enumerate(1);
         bus.noise(1, 0, 1);
         bus.noise(1, 1, 16);
@@ -49,7 +49,7 @@ public final class Promise05NoiseTest {
     }
 
     private static void shorterTransactionsUseItUp(Due due) {
-        ManagedBus bus = Benches.plugged(1, 7);
+        CountedBus bus = Benches.plugged(1, 7);
         bus.enumerate(1);
         due.yes("noise(1, 3, 1)", bus.noise(1, 3, 1));
         bus.tick(2);
@@ -63,7 +63,7 @@ public final class Promise05NoiseTest {
     private static void everyByteAndTheCheck(Due due) {
         int[] row = {16, 9, 8, 200, 99, 1, 2, 3, 4, 5, 6, 7};
         for (int k = 0; k <= 12; k++) {
-            ManagedBus bus = Benches.ready(0, 5);
+            CountedBus bus = Benches.ready(0, 5);
             Benches.ask(bus, 9, 99, 1, 2, 3, 4, 5, 6, 7);
             due.yes("noise(0, " + k + ", 1 + k)", bus.noise(0, k, 1 + k));
             bus.tick(1);
@@ -80,7 +80,7 @@ public final class Promise05NoiseTest {
     }
 
     private static void ticksWithoutATransactionLeaveIt(Due due) {
-        ManagedBus bus = Benches.ready(0, 5);
+        CountedBus bus = Benches.ready(0, 5);
         bus.noise(0, 4, 3);
         bus.tick(10);
         Benches.ask(bus, 9, 1);
@@ -90,7 +90,7 @@ public final class Promise05NoiseTest {
     }
 
     private static void eachBusHasItsOwn(Due due) {
-        ManagedBus bus = Benches.plugged(1, 7);
+        CountedBus bus = Benches.plugged(1, 7);
         bus.noise(0, 0, 1);
         bus.noise(1, 0, 2);
         bus.enumerate(0);

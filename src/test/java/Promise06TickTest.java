@@ -19,7 +19,7 @@ public final class Promise06TickTest {
     }
 
     private static void clockAndRefusals(Due due) {
-        ManagedBus bus = new ManagedBus();
+        CountedBus bus = new CountedBus();
         due.is("tick(1)", bus.tick(1), 1);
         due.is("tick(100)", bus.tick(100), 101);
         int[] wrong = {0, -1, 101, Integer.MAX_VALUE, Integer.MIN_VALUE};
@@ -30,8 +30,8 @@ public final class Promise06TickTest {
     }
 
     private static void manyTicksAreSingleOnes(Due due) {
-        ManagedBus one = Benches.plugged(0, 5, 6, 7);
-        ManagedBus other = Benches.plugged(0, 5, 6, 7);
+        CountedBus one = Benches.plugged(0, 5, 6, 7);
+        CountedBus other = Benches.plugged(0, 5, 6, 7);
         one.enumerate(0);
         other.enumerate(0);
         one.tick(9);
@@ -45,7 +45,7 @@ public final class Promise06TickTest {
     }
 
     private static void bus0IsBeforeBus1(Due due) {
-        ManagedBus bus = Benches.ready(1, 5);
+        CountedBus bus = Benches.ready(1, 5);
         int r = Benches.ask(bus, 32, 1);
         bus.tick(1);
         Benches.wireIs(due, bus, 0, 16, 32, 8, 200, 1);
@@ -62,7 +62,7 @@ public final class Promise06TickTest {
     }
 
     private static void busesAreBeforeRequests(Due due) {
-        ManagedBus bus = Benches.ready(0, 5);
+        CountedBus bus = Benches.ready(0, 5);
         int r = Benches.ask(bus, 9, 1);
         for (int i = 0; i < 4; i++) {
             bus.enumerate(0);
@@ -76,7 +76,7 @@ public final class Promise06TickTest {
     }
 
     private static void leastRowIsLeft(Due due) {
-        ManagedBus bus = Benches.ready(0, 5, 6);
+        CountedBus bus = Benches.ready(0, 5, 6);
         Benches.setReceiver(bus, 9, 9);
         Benches.setReceiver(bus, 10, 8);
         bus.sensor(2, 2000);
@@ -94,7 +94,7 @@ public final class Promise06TickTest {
     }
 
     private static void ofTheSameTheLeastNode(Due due) {
-        ManagedBus bus = Benches.ready(0, 5, 5);
+        CountedBus bus = Benches.ready(0, 5, 5);
         int r = Benches.ask(bus, 9, 1);
         bus.tick(1);
         due.is("node(2, 5)", bus.node(2, 5), 1);
@@ -108,7 +108,7 @@ public final class Promise06TickTest {
     }
 
     private static void triesOfAPacket(Due due) {
-        ManagedBus bus = Benches.ready(0, 5);
+        CountedBus bus = Benches.ready(0, 5);
         Benches.ask(bus, 9, 1);
         Benches.ask(bus, 9, 1);
         for (int i = 1; i <= 2; i++) {
@@ -130,7 +130,7 @@ public final class Promise06TickTest {
     }
 
     private static void triesAreZeroAfterAGoodOne(Due due) {
-        ManagedBus bus = Benches.ready(0, 5);
+        CountedBus bus = Benches.ready(0, 5);
         Benches.ask(bus, 9, 1, 2, 3, 4, 5, 6, 7, 8, 9);
         for (int packet = 0; packet < 2; packet++) {
             bus.noise(0, 5, 8);
@@ -145,7 +145,7 @@ public final class Promise06TickTest {
     }
 
     private static void nobodyHasTheAddress(Due due) {
-        ManagedBus bus = Benches.ready(0, 5);
+        CountedBus bus = Benches.ready(0, 5);
         Benches.ask(bus, 31, 1);
         bus.tick(1);
         Benches.wireIs(due, bus, 0, 38, 31, 8, 200, 1);
@@ -155,7 +155,7 @@ public final class Promise06TickTest {
         bus.tick(1);
         due.is("node(0, 7)", bus.node(0, 7), 0);
         due.is("node(0, 5)", bus.node(0, 5), 0);
-        ManagedBus far = Benches.ready(1, 5);
+        CountedBus far = Benches.ready(1, 5);
         Benches.ask(far, 63, 1);
         far.tick(2);
         Benches.wireIs(due, far, 1, 47, 63, 8, 200, 1);
@@ -166,7 +166,7 @@ public final class Promise06TickTest {
     }
 
     private static void theBridgeWaitsForBus0(Due due) {
-        ManagedBus bus = Benches.ready(1, 5);
+        CountedBus bus = Benches.ready(1, 5);
         Benches.setReceiver(bus, 32, 8);
         due.is("sense(2, 5)", bus.sense(2, 5), 8);
         bus.sensor(2, 2000);
@@ -182,7 +182,7 @@ public final class Promise06TickTest {
     }
 
     private static void farPacketsWaitForTheBridge(Due due) {
-        ManagedBus bus = Benches.plugged(1, 5);
+        CountedBus bus = Benches.plugged(1, 5);
         bus.enumerate(1);
         bus.tick(4);
         Benches.ask(bus, 32, 1);
@@ -200,7 +200,7 @@ public final class Promise06TickTest {
     }
 
     private static void lastAddressOfTheBridgesIdentity(Due due) {
-        ManagedBus bus = new ManagedBus();
+        CountedBus bus = new CountedBus();
         bus.enumerate(0);
         bus.tick(3);
         bus.plug(2, 0, 1000);
@@ -218,7 +218,7 @@ public final class Promise06TickTest {
     }
 
     private static void failedEnumerationKeepsTheBridgesAddress(Due due) {
-        ManagedBus bus = new ManagedBus();
+        CountedBus bus = new CountedBus();
         bus.enumerate(0);
         bus.tick(4);
         bus.plug(2, 0, 5);
@@ -242,7 +242,7 @@ public final class Promise06TickTest {
 
     /** After an enumeration that failed two ports may have one address; both take. */
     private static void staleAddressesTake(Due due) {
-        ManagedBus bus = Benches.ready(1, 5);
+        CountedBus bus = Benches.ready(1, 5);
         bus.plug(3, 1, 4);
         bus.enumerate(1);
         bus.tick(3);

@@ -10,7 +10,7 @@ public final class Promise07SheetTest {
     }
 
     private static void wrongInputsChangeNothing(Due due) {
-        ManagedBus bus = Benches.ready(0, 5);
+        CountedBus bus = Benches.ready(0, 5);
         due.yes("sheet(0, 99)", bus.sheet(0, 99));
         int[][] wrong = {{-1, 1}, {32, 1}, {0, -1}, {0, 256}, {Integer.MAX_VALUE, 1}, {0, Integer.MIN_VALUE}};
         for (int[] w : wrong) {
@@ -22,7 +22,7 @@ public final class Promise07SheetTest {
     }
 
     private static void zeroAtFirst(Due due) {
-        ManagedBus bus = Benches.ready(0, 5);
+        CountedBus bus = Benches.ready(0, 5);
         bus.ask(9, 32);
         int[] flags = {136, 24, 40, 120};
         for (int packet = 0; packet < 4; packet++) {
@@ -32,7 +32,7 @@ public final class Promise07SheetTest {
     }
 
     private static void allBytesGoOut(Due due) {
-        ManagedBus bus = Benches.ready(0, 5);
+        CountedBus bus = Benches.ready(0, 5);
         for (int k = 0; k < 32; k++) {
             due.yes("sheet(" + k + ", " + (255 - 8 * k) + ")", bus.sheet(k, 255 - 8 * k));
         }
@@ -46,7 +46,7 @@ public final class Promise07SheetTest {
     }
 
     private static void aRequestKeepsItsBytes(Due due) {
-        ManagedBus bus = Benches.ready(0, 5);
+        CountedBus bus = Benches.ready(0, 5);
         Benches.ask(bus, 20, 7, 8);
         bus.sheet(0, 50);
         bus.sheet(1, 60);

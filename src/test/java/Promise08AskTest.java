@@ -17,7 +17,7 @@ public final class Promise08AskTest {
     }
 
     private static void wrongInputsChangeNothing(Due due) {
-        ManagedBus bus = new ManagedBus();
+        CountedBus bus = new CountedBus();
         int[][] wrong = {{9, 0}, {9, 33}, {9, -1}, {8, 1}, {64, 1}, {-1, 1}, {0, 1},
             {Integer.MAX_VALUE, 1}, {9, Integer.MAX_VALUE}, {Integer.MIN_VALUE, Integer.MIN_VALUE}};
         for (int[] w : wrong) {
@@ -31,7 +31,7 @@ public final class Promise08AskTest {
     }
 
     private static void fortyAreTheMost(Due due) {
-        ManagedBus bus = Benches.ready(0, 5);
+        CountedBus bus = Benches.ready(0, 5);
         for (int r = 0; r < 40; r++) {
             due.is("ask(9, 1)", Benches.ask(bus, 9, 1), r);
             due.is("request(r, 0)", bus.request(r, 0), 1);
@@ -45,7 +45,7 @@ public final class Promise08AskTest {
 
     private static void tagsAndEndpoints(Due due) {
         for (int first = 12; first <= 22; first += 10) {
-            ManagedBus bus = Benches.ready(0, 5);
+            CountedBus bus = Benches.ready(0, 5);
             for (int r = 0; r < 10; r++) {
                 Benches.ask(bus, first + r, 77);
                 bus.tick(1);
@@ -58,7 +58,7 @@ public final class Promise08AskTest {
     private static void messagesAreCut(Due due) {
         int[][] flags = {{192}, {128, 80}, {128, 16, 96}, {128, 16, 32, 112}};
         for (int n = 1; n <= 32; n++) {
-            ManagedBus bus = Benches.ready(0, 5);
+            CountedBus bus = Benches.ready(0, 5);
             int packets = (n + 7) / 8;
             for (int k = 0; k < n; k++) {
                 bus.sheet(k, 100 + k);
@@ -83,7 +83,7 @@ public final class Promise08AskTest {
     }
 
     private static void allPacketsHaveRoomOrNone(Due due) {
-        ManagedBus bus = new ManagedBus();
+        CountedBus bus = new CountedBus();
         bus.ask(9, 24);
         bus.ask(9, 24);
         due.is("node(0, 5)", bus.node(0, 5), 6);
@@ -98,7 +98,7 @@ public final class Promise08AskTest {
     }
 
     private static void withoutRoomTheTimerSends(Due due) {
-        ManagedBus bus = Benches.ready(0, 5);
+        CountedBus bus = Benches.ready(0, 5);
         bus.ask(20, 32);
         bus.ask(20, 32);
         int r = Benches.ask(bus, 9, 1);
@@ -114,7 +114,7 @@ public final class Promise08AskTest {
     }
 
     /** Noise on three transactions drops the packet that is to go next. */
-    private static void dropNext(ManagedBus bus) {
+    private static void dropNext(CountedBus bus) {
         for (int i = 0; i < 3; i++) {
             bus.noise(0, 1, 1);
             bus.tick(1);
@@ -122,7 +122,7 @@ public final class Promise08AskTest {
     }
 
     private static void aLostFirstPacket(Due due) {
-        ManagedBus bus = Benches.ready(0, 5);
+        CountedBus bus = Benches.ready(0, 5);
         int r = Benches.ask(bus, 9, 5, 0, 1, 2, 3, 4, 5, 6, 7);
         dropNext(bus);
         due.is("node(0, 5)", bus.node(0, 5), 1);
@@ -137,7 +137,7 @@ public final class Promise08AskTest {
     }
 
     private static void aLostMiddlePacket(Due due) {
-        ManagedBus bus = Benches.ready(0, 5);
+        CountedBus bus = Benches.ready(0, 5);
         bus.sheet(0, 5);
         bus.sheet(2, 44);
         int r = bus.ask(9, 26);
@@ -149,7 +149,7 @@ public final class Promise08AskTest {
     }
 
     private static void anotherTag(Due due) {
-        ManagedBus bus = Benches.ready(0, 5);
+        CountedBus bus = Benches.ready(0, 5);
         Benches.ask(bus, 9, 5, 0, 1, 2, 3, 4, 5, 6, 7);
         Benches.ask(bus, 9, 5, 0, 11, 12, 13, 14, 15, 16, 17);
         bus.tick(1);
@@ -164,7 +164,7 @@ public final class Promise08AskTest {
 
     /** Requests 0 and 8 have one tag: the half of each is a whole message. */
     private static void theSameTagIsPutTogether(Due due) {
-        ManagedBus bus = Benches.ready(0, 5);
+        CountedBus bus = Benches.ready(0, 5);
         for (int r = 0; r < 8; r++) {
             Benches.ask(bus, 9, 1);
             bus.tick(2);
@@ -187,7 +187,7 @@ public final class Promise08AskTest {
     }
 
     private static void aFirstPacketBeginsAnew(Due due) {
-        ManagedBus bus = Benches.ready(0, 5);
+        CountedBus bus = Benches.ready(0, 5);
         Benches.ask(bus, 9, 5, 0, 1, 2, 3, 4, 5, 6, 7);
         Benches.ask(bus, 9, 5, 1, 11, 12, 13, 14, 15, 16, 17);
         bus.tick(1);

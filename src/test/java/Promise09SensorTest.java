@@ -19,7 +19,7 @@ public final class Promise09SensorTest {
     }
 
     private static void wrongInputsChangeNothing(Due due) {
-        ManagedBus bus = Benches.plugged(0, 5);
+        CountedBus bus = Benches.plugged(0, 5);
         int[] noNodes = {-1, 0, 3, 7, Integer.MAX_VALUE, Integer.MIN_VALUE};
         for (int d : noNodes) {
             due.no("sensor(" + d + ", 2000)", bus.sensor(d, 2000));
@@ -38,7 +38,7 @@ public final class Promise09SensorTest {
         due.is("sense(3, 0)", bus.sense(3, 0), 0);
     }
 
-    private static void states(Due due, ManagedBus bus, int[]... valuesAndStates) {
+    private static void states(Due due, CountedBus bus, int[]... valuesAndStates) {
         for (int[] pair : valuesAndStates) {
             bus.sensor(2, pair[0]);
             due.is("sense(2, 1) at " + pair[0], bus.sense(2, 1), pair[1]);
@@ -46,20 +46,20 @@ public final class Promise09SensorTest {
     }
 
     private static void statesAtTheBounds(Due due) {
-        ManagedBus bus = Benches.plugged(0, 5);
+        CountedBus bus = Benches.plugged(0, 5);
         states(due, bus, new int[][] {{1000, 0}, {1001, 2}, {1000, 2}, {999, 0}, {1000, 0},
             {-1000, 0}, {-1001, 1}, {-1000, 1}, {-999, 0}, {-1000, 0}});
     }
 
     private static void slackHoldsAState(Due due) {
-        ManagedBus bus = Benches.ready(0, 5);
+        CountedBus bus = Benches.ready(0, 5);
         Benches.setBounds(bus, 9, -10, 10, 4);
         states(due, bus, new int[][] {{6, 0}, {10, 0}, {11, 2}, {6, 2}, {5, 0}, {6, 0},
             {-6, 0}, {-10, 0}, {-11, 1}, {-6, 1}, {-5, 0}, {-6, 0}});
     }
 
     private static void fromOneSideToTheOther(Due due) {
-        ManagedBus bus = Benches.ready(0, 5);
+        CountedBus bus = Benches.ready(0, 5);
         Benches.setBounds(bus, 9, -10, 10, 255);
         states(due, bus, new int[][] {{11, 2}, {-10, 2}, {-245, 2}, {-246, 1}, {10, 1}, {11, 2}, {-300, 1},
             {245, 2}});
@@ -67,7 +67,7 @@ public final class Promise09SensorTest {
 
     /** With LOW above HIGH the state ABOVE comes first. */
     private static void crossedBounds(Due due) {
-        ManagedBus bus = Benches.ready(0, 5);
+        CountedBus bus = Benches.ready(0, 5);
         Benches.setBounds(bus, 9, 10, -10, 0);
         due.is("sense(2, 2)", bus.sense(2, 2), 10);
         due.is("sense(2, 3)", bus.sense(2, 3), -10);
@@ -76,7 +76,7 @@ public final class Promise09SensorTest {
     }
 
     private static void eventsOnTheWire(Due due) {
-        ManagedBus bus = Benches.ready(0, 5);
+        CountedBus bus = Benches.ready(0, 5);
         Benches.setReceiver(bus, 9, 8);
         bus.sensor(2, 0x1234);
         due.is("sense(2, 6)", bus.sense(2, 6), 1);
@@ -96,7 +96,7 @@ public final class Promise09SensorTest {
     }
 
     private static void noReceiverNoEvent(Due due) {
-        ManagedBus bus = Benches.ready(0, 5);
+        CountedBus bus = Benches.ready(0, 5);
         bus.sensor(2, 2000);
         due.is("sense(2, 1)", bus.sense(2, 1), 2);
         due.is("sense(2, 6)", bus.sense(2, 6), 0);
@@ -109,7 +109,7 @@ public final class Promise09SensorTest {
     }
 
     private static void tagsOfEvents(Due due) {
-        ManagedBus bus = Benches.ready(0, 5);
+        CountedBus bus = Benches.ready(0, 5);
         Benches.setReceiver(bus, 9, 8);
         for (int i = 0; i < 18; i++) {
             bus.sensor(2, i % 2 == 0 ? 2000 : 0);
@@ -120,7 +120,7 @@ public final class Promise09SensorTest {
     }
 
     private static void withoutRoomTheCountGrows(Due due) {
-        ManagedBus bus = Benches.ready(0, 5);
+        CountedBus bus = Benches.ready(0, 5);
         Benches.setReceiver(bus, 9, 8);
         for (int i = 0; i < 10; i++) {
             bus.sensor(2, i % 2 == 0 ? 2000 + i : -i);
@@ -134,7 +134,7 @@ public final class Promise09SensorTest {
     }
 
     private static void newBoundsSense(Due due) {
-        ManagedBus bus = Benches.ready(0, 5);
+        CountedBus bus = Benches.ready(0, 5);
         Benches.setReceiver(bus, 9, 8);
         bus.sensor(2, 50);
         int r = Benches.ask(bus, 9, 2, 0, 0, 0, 40, 5);
@@ -150,7 +150,7 @@ public final class Promise09SensorTest {
     }
 
     private static void eventsOfTheBridge(Due due) {
-        ManagedBus bus = Benches.ready(1, 5);
+        CountedBus bus = Benches.ready(1, 5);
         Benches.setReceiver(bus, 9, 8);
         due.is("sense(1, 5)", bus.sense(1, 5), 8);
         due.yes("sensor(1, 1001)", bus.sensor(1, 1001));
@@ -165,7 +165,7 @@ public final class Promise09SensorTest {
     private static void eventsThatNobodyGets(Due due) {
         int[] receivers = {9, 10, 32, 63, 64, 255};
         for (int receiver : receivers) {
-            ManagedBus near = Benches.ready(0, 5);
+            CountedBus near = Benches.ready(0, 5);
             Benches.setReceiver(near, 9, receiver);
             near.sensor(2, 2000);
             near.tick(1);
@@ -175,7 +175,7 @@ public final class Promise09SensorTest {
         }
         int[] far = {32, 33, 63, 255};
         for (int receiver : far) {
-            ManagedBus bus = Benches.ready(1, 5, 6);
+            CountedBus bus = Benches.ready(1, 5, 6);
             Benches.setReceiver(bus, 32, receiver);
             bus.sensor(2, 2000);
             bus.tick(1);
@@ -189,7 +189,7 @@ public final class Promise09SensorTest {
     private static void handedOnToBus0(Due due) {
         int[] receivers = {8, 10, 31};
         for (int receiver : receivers) {
-            ManagedBus bus = Benches.ready(1, 5);
+            CountedBus bus = Benches.ready(1, 5);
             Benches.setReceiver(bus, 32, receiver);
             bus.sensor(2, 2000);
             bus.tick(1);
@@ -202,7 +202,7 @@ public final class Promise09SensorTest {
     }
 
     private static void theBridgeHasNoRoom(Due due) {
-        ManagedBus bus = Benches.ready(1, 5);
+        CountedBus bus = Benches.ready(1, 5);
         Benches.setReceiver(bus, 9, 8);
         Benches.setReceiver(bus, 32, 8);
         for (int i = 0; i < 8; i++) {
@@ -222,7 +222,7 @@ public final class Promise09SensorTest {
 
     /** The bridge takes an event for a message that it does not know. */
     private static void anEventToTheBridge(Due due) {
-        ManagedBus bus = Benches.ready(1, 5);
+        CountedBus bus = Benches.ready(1, 5);
         Benches.setReceiver(bus, 32, 9);
         bus.sensor(2, 2000);
         bus.tick(1);

@@ -9,7 +9,7 @@ public final class Promise10EnumerationTest {
     }
 
     private static void wrongInputs(Due due) {
-        ManagedBus bus = Benches.ready(0, 5);
+        CountedBus bus = Benches.ready(0, 5);
         int[][] wrong = {{-1, 0}, {2, 0}, {0, -1}, {0, 3}, {1, 3},
             {Integer.MAX_VALUE, 0}, {0, Integer.MIN_VALUE}};
         for (int[] w : wrong) {
@@ -18,7 +18,7 @@ public final class Promise10EnumerationTest {
     }
 
     private static void allStates(Due due) {
-        ManagedBus bus = Benches.plugged(1, 7, 8);
+        CountedBus bus = Benches.plugged(1, 7, 8);
         Benches.enumerationIs(due, bus, 1, 0, 0, 0);
         bus.enumerate(1);
         Benches.enumerationIs(due, bus, 1, 1, 0, 0);
@@ -35,7 +35,7 @@ public final class Promise10EnumerationTest {
     }
 
     private static void theLatestOneCounts(Due due) {
-        ManagedBus bus = Benches.ready(1, 7, 8);
+        CountedBus bus = Benches.ready(1, 7, 8);
         Benches.enumerationIs(due, bus, 1, 2, 2, 0);
         bus.enumerate(1);
         Benches.enumerationIs(due, bus, 1, 1, 2, 0);

@@ -9,7 +9,7 @@ public final class Promise11NodeTest {
         due.end();
     }
 
-    private static void nodeIs(Due due, ManagedBus bus, int d, int... want) {
+    private static void nodeIs(Due due, CountedBus bus, int d, int... want) {
         for (int what = 0; what < 8; what++) {
             due.is("node(" + d + ", " + what + ")", bus.node(d, what), want[what]);
         }
@@ -18,7 +18,7 @@ public final class Promise11NodeTest {
     }
 
     private static void wrongInputs(Due due) {
-        ManagedBus bus = Benches.ready(0, 5);
+        CountedBus bus = Benches.ready(0, 5);
         int[][] wrong = {{-1, 0}, {7, 0}, {3, 0}, {3, 4}, {Integer.MAX_VALUE, 1}, {Integer.MIN_VALUE, 1},
             {0, Integer.MAX_VALUE}, {0, Integer.MIN_VALUE}};
         for (int[] w : wrong) {
@@ -27,7 +27,7 @@ public final class Promise11NodeTest {
     }
 
     private static void allNodesWhenReady(Due due) {
-        ManagedBus bus = Benches.plugged(0, 5, 2000);
+        CountedBus bus = Benches.plugged(0, 5, 2000);
         bus.plug(6, 1, 300);
         bus.enumerate(0);
         bus.enumerate(1);
@@ -43,7 +43,7 @@ public final class Promise11NodeTest {
     }
 
     private static void outputsAndTries(Due due) {
-        ManagedBus bus = Benches.ready(0, 5);
+        CountedBus bus = Benches.ready(0, 5);
         Benches.ask(bus, 9, 4, 0, 24);
         due.is("node(0, 5)", bus.node(0, 5), 1);
         bus.tick(1);
@@ -64,7 +64,7 @@ public final class Promise11NodeTest {
     }
 
     private static void outputsOfTheBridge(Due due) {
-        ManagedBus bus = Benches.ready(1, 5);
+        CountedBus bus = Benches.ready(1, 5);
         bus.enumerate(1);
         for (int i = 0; i < 4; i++) {
             Benches.ask(bus, 32, 1);
@@ -81,7 +81,7 @@ public final class Promise11NodeTest {
     }
 
     private static void theBridgeIsFull(Due due) {
-        ManagedBus full = Benches.ready(1, 5);
+        CountedBus full = Benches.ready(1, 5);
         full.ask(63, 32);
         full.ask(63, 32);
         full.enumerate(1);

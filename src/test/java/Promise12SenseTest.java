@@ -11,14 +11,14 @@ public final class Promise12SenseTest {
         due.end();
     }
 
-    private static void senseIs(Due due, ManagedBus bus, int d, int... want) {
+    private static void senseIs(Due due, CountedBus bus, int d, int... want) {
         for (int what = 0; what < 7; what++) {
             due.is("sense(" + d + ", " + what + ")", bus.sense(d, what), want[what]);
         }
     }
 
     private static void wrongInputs(Due due) {
-        ManagedBus bus = Benches.ready(0, 5);
+        CountedBus bus = Benches.ready(0, 5);
         int[][] wrong = {{-1, 2}, {0, 2}, {0, 3}, {3, 2}, {7, 2}, {2, -1}, {2, 7}, {1, -1}, {1, 7},
             {Integer.MAX_VALUE, 2}, {Integer.MIN_VALUE, 2}};
         for (int[] w : wrong) {
@@ -29,7 +29,7 @@ public final class Promise12SenseTest {
     }
 
     private static void allOfASensor(Due due) {
-        ManagedBus bus = Benches.ready(0, 5);
+        CountedBus bus = Benches.ready(0, 5);
         senseIs(due, bus, 2, 0, 0, -1000, 1000, 0, 0, 0);
         Benches.setReceiver(bus, 9, 8);
         senseIs(due, bus, 2, 0, 0, -1000, 1000, 0, 8, 0);
@@ -46,7 +46,7 @@ public final class Promise12SenseTest {
     }
 
     private static void stateIsTold(Due due) {
-        ManagedBus bus = Benches.ready(1, 5);
+        CountedBus bus = Benches.ready(1, 5);
         bus.sensor(2, -1002);
         Benches.answered(due, bus, Benches.ask(bus, 32, 1), 129, 1, 252, 22);
         bus.sensor(1, 32767);
@@ -56,7 +56,7 @@ public final class Promise12SenseTest {
     }
 
     private static void boundsWithSign(Due due) {
-        ManagedBus bus = Benches.ready(0, 5);
+        CountedBus bus = Benches.ready(0, 5);
         Benches.answered(due, bus, Benches.ask(bus, 9, 2, 128, 0, 127, 255, 255), 130);
         senseIs(due, bus, 2, 0, 0, -32768, 32767, 255, 0, 0);
         bus.sensor(2, -32768);
@@ -68,7 +68,7 @@ public final class Promise12SenseTest {
     }
 
     private static void receiverIsAnyByte(Due due) {
-        ManagedBus bus = Benches.ready(0, 5);
+        CountedBus bus = Benches.ready(0, 5);
         int[] receivers = {255, 0, 63, 64, 8};
         for (int receiver : receivers) {
             Benches.answered(due, bus, Benches.ask(bus, 9, 3, receiver), 131);
@@ -80,7 +80,7 @@ public final class Promise12SenseTest {
         int[][] wrong = {{0}, {6}, {64, 2, 0, 0}, {129}, {255}, {1, 0}, {1, 1, 1}, {2}, {2, 0, 1, 0, 2},
             {2, 0, 1, 0, 2, 3, 0}, {3}, {3, 8, 0}};
         for (int[] message : wrong) {
-            ManagedBus bus = Benches.ready(0, 5);
+            CountedBus bus = Benches.ready(0, 5);
             Benches.answered(due, bus, Benches.ask(bus, 9, message), 255);
             senseIs(due, bus, 2, 0, 0, -1000, 1000, 0, 0, 0);
             due.is("event(0, 0)", bus.event(0, 0), -40000);

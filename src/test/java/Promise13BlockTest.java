@@ -11,7 +11,7 @@ public final class Promise13BlockTest {
     }
 
     private static void wrongInputs(Due due) {
-        ManagedBus bus = Benches.ready(0, 5);
+        CountedBus bus = Benches.ready(0, 5);
         int[][] wrong = {{-1, 0}, {0, 0}, {3, 0}, {7, 0}, {2, -1}, {2, 24}, {1, -1}, {1, 24},
             {Integer.MAX_VALUE, 0}, {Integer.MIN_VALUE, 0}, {2, Integer.MAX_VALUE}, {2, Integer.MIN_VALUE}};
         for (int[] w : wrong) {
@@ -24,7 +24,7 @@ public final class Promise13BlockTest {
         due.is("block(2, 0), unplugged", bus.block(2, 0), -1);
     }
 
-    private static void blockIs(Due due, ManagedBus bus, int d, int from, int... bytes) {
+    private static void blockIs(Due due, CountedBus bus, int d, int from, int... bytes) {
         for (int k = 0; k < 24; k++) {
             int want = k >= from && k < from + bytes.length ? bytes[k - from] : 0;
             due.is("block(" + d + ", " + k + ")", bus.block(d, k), want);
@@ -32,7 +32,7 @@ public final class Promise13BlockTest {
     }
 
     private static void writtenAndRead(Due due) {
-        ManagedBus bus = Benches.ready(0, 5);
+        CountedBus bus = Benches.ready(0, 5);
         Benches.answered(due, bus, Benches.ask(bus, 9, 5, 3, 255, 7, 9), 133);
         blockIs(due, bus, 2, 3, 255, 7, 9);
         Benches.answered(due, bus, Benches.ask(bus, 9, 4, 2, 5), 132, 0, 255, 7, 9, 0);
@@ -46,7 +46,7 @@ public final class Promise13BlockTest {
     }
 
     private static void theWholeBlock(Due due) {
-        ManagedBus bus = Benches.ready(1, 5);
+        CountedBus bus = Benches.ready(1, 5);
         int[] message = new int[26];
         int[] answer = new int[25];
         int[] block = new int[24];
@@ -82,14 +82,14 @@ public final class Promise13BlockTest {
             {4, 255, 1}, {4, 0, 255}, {4, 0, 1, 1}, {5}, {5, 0}, {5, 24}, {5, 24, 9}, {5, 23, 9, 9},
             {5, 255, 9}, tooLong, longest, shifted};
         for (int[] message : wrong) {
-            ManagedBus bus = Benches.ready(0, 5);
+            CountedBus bus = Benches.ready(0, 5);
             Benches.answered(due, bus, Benches.ask(bus, 9, message), 255);
             blockIs(due, bus, 2, 0);
         }
     }
 
     private static void blocksAreApart(Due due) {
-        ManagedBus bus = Benches.ready(0, 5, 6);
+        CountedBus bus = Benches.ready(0, 5, 6);
         Benches.answered(due, bus, Benches.ask(bus, 9, 5, 0, 1), 133);
         Benches.answered(due, bus, Benches.ask(bus, 10, 5, 0, 2), 133);
         Benches.answered(due, bus, Benches.ask(bus, 11, 5, 0, 3), 133);

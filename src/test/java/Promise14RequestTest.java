@@ -12,14 +12,14 @@ public final class Promise14RequestTest {
         due.end();
     }
 
-    private static void requestIs(Due due, ManagedBus bus, int r, int... want) {
+    private static void requestIs(Due due, CountedBus bus, int r, int... want) {
         for (int what = 0; what < 5; what++) {
             due.is("request(" + r + ", " + what + ")", bus.request(r, what), want[what]);
         }
     }
 
     private static void wrongInputs(Due due) {
-        ManagedBus bus = Benches.ready(0, 5);
+        CountedBus bus = Benches.ready(0, 5);
         Benches.ask(bus, 9, 1);
         int[][] wrong = {{-1, 0}, {1, 0}, {39, 0}, {40, 0}, {0, -1}, {0, 5}, {Integer.MAX_VALUE, 0},
             {Integer.MIN_VALUE, 0}, {0, Integer.MAX_VALUE}};
@@ -29,7 +29,7 @@ public final class Promise14RequestTest {
     }
 
     private static void fromWaitingToAnswered(Due due) {
-        ManagedBus bus = Benches.ready(0, 5);
+        CountedBus bus = Benches.ready(0, 5);
         int r = Benches.ask(bus, 9, 1);
         requestIs(due, bus, r, 1, 9, 30, 1, 0);
         bus.tick(1);
@@ -41,7 +41,7 @@ public final class Promise14RequestTest {
     }
 
     private static void fromWaitingToLost(Due due) {
-        ManagedBus bus = Benches.ready(0, 5);
+        CountedBus bus = Benches.ready(0, 5);
         int r = Benches.ask(bus, 20, 1);
         bus.tick(29);
         requestIs(due, bus, r, 1, 20, 1, 1, 0);
@@ -62,7 +62,7 @@ public final class Promise14RequestTest {
     }
 
     private static void answeredWhenSentAgain(Due due) {
-        ManagedBus bus = Benches.ready(0, 5);
+        CountedBus bus = Benches.ready(0, 5);
         int r = Benches.ask(bus, 9, 1);
         for (int i = 0; i < 3; i++) {
             bus.noise(0, 3, 64);
@@ -75,7 +75,7 @@ public final class Promise14RequestTest {
     }
 
     private static void theFirstThatWaits(Due due) {
-        ManagedBus bus = Benches.ready(0, 5, 5);
+        CountedBus bus = Benches.ready(0, 5, 5);
         Benches.ask(bus, 9, 1);
         for (int r = 1; r < 8; r++) {
             bus.ask(20, 32);
@@ -90,7 +90,7 @@ public final class Promise14RequestTest {
     }
 
     private static void endpointAndTagMustFit(Due due) {
-        ManagedBus bus = Benches.ready(0, 5, 5, 6);
+        CountedBus bus = Benches.ready(0, 5, 5, 6);
         Benches.ask(bus, 9, 1);
         Benches.ask(bus, 10, 1);
         bus.tick(3);
@@ -98,7 +98,7 @@ public final class Promise14RequestTest {
         due.is("request(1, 0), answers of 9 are not for it", bus.request(1, 0), 1);
         bus.tick(2);
         due.is("request(1, 0)", bus.request(1, 0), 2);
-        ManagedBus other = Benches.ready(0, 5, 5);
+        CountedBus other = Benches.ready(0, 5, 5);
         Benches.ask(other, 9, 1);
         Benches.ask(other, 9, 2);
         other.tick(3);
@@ -108,7 +108,7 @@ public final class Promise14RequestTest {
     }
 
     private static void lostOnesAreNotAnswered(Due due) {
-        ManagedBus bus = Benches.ready(0, 5);
+        CountedBus bus = Benches.ready(0, 5);
         int r = Benches.ask(bus, 9, 1);
         bus.unplug(2);
         bus.tick(89);
@@ -121,7 +121,7 @@ public final class Promise14RequestTest {
     }
 
     private static void eachHasItsOwnTimer(Due due) {
-        ManagedBus bus = Benches.ready(0, 5);
+        CountedBus bus = Benches.ready(0, 5);
         Benches.ask(bus, 20, 1);
         bus.tick(10);
         Benches.ask(bus, 21, 1);

@@ -9,7 +9,7 @@ public final class Promise15AnswerTest {
     }
 
     private static void nothingBeforeItCame(Due due) {
-        ManagedBus bus = Benches.ready(0, 5);
+        CountedBus bus = Benches.ready(0, 5);
         due.is("answer(0, 0), no request", bus.answer(0, 0), -1);
         Benches.ask(bus, 9, 4, 0, 24);
         due.is("answer(0, 0), asked", bus.answer(0, 0), -1);
@@ -27,7 +27,7 @@ public final class Promise15AnswerTest {
     }
 
     private static void allBytesOfAnAnswer(Due due) {
-        ManagedBus bus = Benches.ready(1, 5);
+        CountedBus bus = Benches.ready(1, 5);
         Benches.answered(due, bus, Benches.ask(bus, 32, 5, 0, 9, 8, 7, 6, 5, 4, 3, 2, 1), 133);
         for (int n = 1; n <= 9; n++) {
             int[] want = new int[n + 1];
@@ -41,7 +41,7 @@ public final class Promise15AnswerTest {
     }
 
     private static void answersAreApart(Due due) {
-        ManagedBus bus = Benches.ready(0, 5, 6);
+        CountedBus bus = Benches.ready(0, 5, 6);
         bus.sensor(2, 1);
         bus.sensor(3, 2);
         Benches.ask(bus, 9, 1);

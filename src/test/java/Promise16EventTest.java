@@ -10,14 +10,14 @@ public final class Promise16EventTest {
         due.end();
     }
 
-    private static void eventIs(Due due, ManagedBus bus, int k, int... want) {
+    private static void eventIs(Due due, CountedBus bus, int k, int... want) {
         for (int what = 0; what < 3; what++) {
             due.is("event(" + k + ", " + what + ")", bus.event(k, what), want[what]);
         }
     }
 
     private static void wrongInputs(Due due) {
-        ManagedBus bus = Benches.ready(0, 5);
+        CountedBus bus = Benches.ready(0, 5);
         Benches.setReceiver(bus, 9, 8);
         due.is("event(0, 0), before the first", bus.event(0, 0), -40000);
         bus.sensor(2, 2000);
@@ -32,7 +32,7 @@ public final class Promise16EventTest {
     }
 
     private static void theLatestIsFirst(Due due) {
-        ManagedBus bus = Benches.plugged(0, 5);
+        CountedBus bus = Benches.plugged(0, 5);
         bus.plug(3, 1, 6);
         bus.enumerate(0);
         bus.enumerate(1);
@@ -53,7 +53,7 @@ public final class Promise16EventTest {
     }
 
     private static void valuesWithSign(Due due) {
-        ManagedBus bus = Benches.ready(0, 5);
+        CountedBus bus = Benches.ready(0, 5);
         Benches.setReceiver(bus, 9, 8);
         int[] values = {32767, -32768, -1, 1001, -1001, 0, 1024, -1025, 255, 4096};
         int[] states = {2, 1, 0, 2, 1, 0, 2, 1, 0, 2};
@@ -64,24 +64,32 @@ public final class Promise16EventTest {
         }
     }
 
+    /** Looked at before the log is full, when it just is, and long after. */
     private static void sixteenAreKept(Due due) {
-        ManagedBus bus = Benches.ready(0, 5);
-        Benches.setReceiver(bus, 9, 8);
-        for (int i = 0; i < 40; i++) {
-            bus.sensor(2, i % 2 == 0 ? 2000 + i : i);
-            bus.tick(1);
-            int kept = Math.min(i + 1, 16);
+        int[] counts = {1, 2, 15, 16, 17, 18, 31, 32, 33, 48, 49};
+        for (int count : counts) {
+            CountedBus bus = Benches.ready(0, 5);
+            Benches.setReceiver(bus, 9, 8);
+            for (int i = 0; i < count; i++) {
+                bus.sensor(2, valueOf(i));
+                bus.tick(1);
+            }
+            int kept = Math.min(count, 16);
             for (int k = 0; k < kept; k++) {
-                int j = i - k;
-                eventIs(due, bus, k, 9, j % 2 == 0 ? 2 : 0, j % 2 == 0 ? 2000 + j : j);
+                int i = count - 1 - k;
+                eventIs(due, bus, k, 9, i % 2 == 0 ? 2 : 0, valueOf(i));
             }
             eventIs(due, bus, kept, -40000, -40000, -40000);
         }
     }
 
+    private static int valueOf(int i) {
+        return i % 2 == 0 ? 2000 + i : i;
+    }
+
     /** Of the same events two came: one of each device with the same endpoint. */
     private static void oneForEachThatCame(Due due) {
-        ManagedBus bus = Benches.ready(0, 5, 5);
+        CountedBus bus = Benches.ready(0, 5, 5);
         Benches.setReceiver(bus, 9, 8);
         bus.sensor(2, 2000);
         bus.sensor(3, 2000);

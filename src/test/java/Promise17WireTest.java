@@ -11,7 +11,7 @@ public final class Promise17WireTest {
     }
 
     private static void wrongInputs(Due due) {
-        ManagedBus bus = Benches.ready(0, 5);
+        CountedBus bus = Benches.ready(0, 5);
         int[][] wrong = {{-1, 0}, {2, 0}, {-1, -1}, {2, -1}, {0, -2}, {0, 3}, {0, 13}, {Integer.MAX_VALUE, 0},
             {Integer.MIN_VALUE, 0}, {0, Integer.MAX_VALUE}, {0, Integer.MIN_VALUE}, {1, 0}};
         due.is("wire(0, NONE), the last SET", bus.wire(0, -1), 3);
@@ -26,7 +26,7 @@ public final class Promise17WireTest {
         int[][] identitiesAndChecks = {{500, 215}, {1000, 169}, {0, 0}, {1, 7}, {255, 243},
             {256, 21}, {65535, 36}};
         for (int[] pair : identitiesAndChecks) {
-            ManagedBus bus = Benches.plugged(1, pair[0]);
+            CountedBus bus = Benches.plugged(1, pair[0]);
             bus.enumerate(1);
             bus.tick(2);
             due.is("wire(1, 2) for " + pair[0], bus.wire(1, 2), pair[1]);
@@ -35,7 +35,7 @@ public final class Promise17WireTest {
 
     private static void lengthsFromThreeToThirteen(Due due) {
         for (int n = 1; n <= 8; n++) {
-            ManagedBus bus = Benches.ready(0, 5);
+            CountedBus bus = Benches.ready(0, 5);
             due.is("wire(0, NONE) after SET", bus.wire(0, -1), 3);
             int[] bytes = new int[n];
             int[] row = new int[4 + n];
@@ -58,7 +58,7 @@ public final class Promise17WireTest {
     }
 
     private static void quietTicksLeaveIt(Due due) {
-        ManagedBus bus = Benches.ready(0, 5);
+        CountedBus bus = Benches.ready(0, 5);
         Benches.wireIs(due, bus, 0, 17, 10);
         bus.tick(50);
         Benches.wireIs(due, bus, 0, 17, 10);
@@ -71,7 +71,7 @@ public final class Promise17WireTest {
     }
 
     private static void asItWasAfterNoise(Due due) {
-        ManagedBus bus = Benches.ready(0, 5);
+        CountedBus bus = Benches.ready(0, 5);
         Benches.ask(bus, 9, 1);
         bus.noise(0, 5, 255);
         bus.tick(1);
