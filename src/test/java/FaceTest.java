@@ -48,7 +48,8 @@ public final class FaceTest {
             int modifiers = nested.getModifiers();
             due.yes("static " + nested, Modifier.isStatic(modifiers) && !Modifier.isPublic(modifiers));
             for (Method method : nested.getDeclaredMethods()) {
-                due.no("name of the face in " + nested, isNameOfTheFace(method.getName()));
+                boolean isPrivate = Modifier.isPrivate(method.getModifiers());
+                due.no("a private " + method, isPrivate && isNameOfTheFace(method.getName()));
             }
         }
     }

@@ -6,6 +6,7 @@ public final class TermsEnumerationTest {
             noThirdTry(due, b);
             thirdTry(due, b);
         }
+        prepareIsForAll(due);
         nothingToAsk(due);
         nothingToAskAnyMore(due);
         nothingLeftToAsk(due);
@@ -81,6 +82,33 @@ public final class TermsEnumerationTest {
             Benches.enumerationIs(due, bus, b, 1, assigned, 0);
             bus.tick(1 + transactions(b));
             Benches.enumerationIs(due, bus, b, 2, found(b), 0);
+        }
+    }
+
+    /** No port of that bus but the owner's is resolved, and no port of the other bus is touched. */
+    private static void prepareIsForAll(Due due) {
+        for (int b = 0; b < 2; b++) {
+            for (int other = 2; other <= 6; other++) {
+                CountedBus bus = new CountedBus();
+                for (int d = 2; d <= 6; d++) {
+                    bus.plug(d, d == other ? 1 - b : b, 100 * d);
+                }
+                bus.enumerate(0);
+                bus.enumerate(1);
+                bus.tick(20);
+                bus.enumerate(b);
+                bus.tick(1);
+                for (int d = 2; d <= 6; d++) {
+                    due.is("node(" + d + ", 3)", bus.node(d, 3), d == other ? 1 : 0);
+                }
+                due.is("node(0, 3)", bus.node(0, 3), 1);
+                due.is("node(1, 3)", bus.node(1, 3), b);
+                bus.tick(20);
+                Benches.enumerationIs(due, bus, b, 2, b == 0 ? 5 : 4, 0);
+                for (int d = 1; d <= 6; d++) {
+                    due.is("node(" + d + ", 3), found again", bus.node(d, 3), 1);
+                }
+            }
         }
     }
 

@@ -12,14 +12,17 @@ public final class TermsInsideTest {
     private static final int LAST = 64;
 
     public static void main(String[] args) throws ReflectiveOperationException {
-        String[] names = {"Part", "Packet", "Row", "Port", "Bus", "SensingNode"};
-        for (String name : names) {
-            if (inside(name) == null) {
-                System.out.println("there is no " + name + " inside: nothing to look at");
-                return;
-            }
-        }
         Due due = new Due();
+        try {
+            lookInside(due);
+        } catch (ClassNotFoundException | NoSuchFieldException | NoSuchMethodException other) {
+            System.out.println("other insides, nothing to look at: " + other);
+            return;
+        }
+        due.end();
+    }
+
+    private static void lookInside(Due due) throws ReflectiveOperationException {
         partsUpTo32Bytes(due);
         partsOfMoreThan32Bytes(due);
         numbersTurnRound(due);
@@ -27,18 +30,18 @@ public final class TermsInsideTest {
         sourcesUpTo63(due);
         rowThatEndsEarlier(due);
         messagesWithoutEight(due);
+        whatIsAnEvent(due);
         portWithoutAnAddress(due);
         nearTargetOnBus1(due);
-        due.end();
     }
 
-    private static Class<?> inside(String name) {
+    private static Class<?> inside(String name) throws ClassNotFoundException {
         for (Class<?> nested : ManagedBus.class.getDeclaredClasses()) {
             if (nested.getSimpleName().equals(name)) {
                 return nested;
             }
         }
-        return null;
+        throw new ClassNotFoundException(name);
     }
 
     private static Object make(String name, Object... args) throws ReflectiveOperationException {
@@ -204,6 +207,20 @@ public final class TermsInsideTest {
             call(node, "receive", message);
             due.is("answers, with " + eight, number(port, "waiting"), eight / 8);
             due.is("receiver, with " + eight, number(node, "receiver"), eight == 8 ? 77 : 0);
+        }
+    }
+
+    /** With 8, of four bytes, the first of them 64: nothing else comes into the log. */
+    private static void whatIsAnEvent(Due due) throws ReflectiveOperationException {
+        int[][] messages = {{64, 1, 2, 3}, {64, 1, 2}, {64, 1, 2, 3, 4}, {63, 1, 2, 3}, {65, 1, 2, 3}, {64}};
+        for (int i = 0; i < messages.length; i++) {
+            for (int eight = 0; eight <= 8; eight += 8) {
+                Object manager = make("Manager");
+                Object message = call(manager, "take", packet(8, 9, FIRST + LAST + eight, messages[i]), 0);
+                call(manager, "receive", message);
+                int want = i == 0 && eight == 8 ? 1 : 0;
+                due.is("events after message " + i + " with " + eight, number(manager, "events"), want);
+            }
         }
     }
 
